@@ -368,7 +368,10 @@ final class Model {
     }
 
     int node(int k, int what) {
-        List<Node> all = nodes();
+        return node(nodes(), k, what);
+    }
+
+    static int node(List<Node> all, int k, int what) {
         if (k < 0 || k >= all.size() || what < 0) {
             return -9;
         }

@@ -9,6 +9,8 @@ public final class ModelTest {
     private long seed;
     private int run;
     private int calls;
+    private int nameKinds = 3;
+    private boolean thick;
     private NeededTrees x;
     private Model m;
     private int[] seen = new int[8];
@@ -83,11 +85,17 @@ public final class ModelTest {
                 fit.add(c);
             }
         }
-        if (fit.isEmpty() || depth <= 0 || below(4) == 0) {
-            into.add(sort == 0 ? -1 : -1 - (want * 3 + below(3)) % 8);
+        boolean ends = thick ? into.size() > 70 || into.isEmpty() : depth <= 0 || below(4) == 0;
+        if (fit.isEmpty() || ends) {
+            into.add(sort == 0 ? -1 : -1 - (want * 3 + below(nameKinds)) % 8);
             return;
         }
         int c = fit.get(below(fit.size()));
+        for (int other : fit) {
+            if (thick && m.constructors.get(other).length > m.constructors.get(c).length) {
+                c = other;
+            }
+        }
         into.add(c);
         int[] one = m.constructors.get(c);
         for (int i = 0; i < one.length - 1; i++) {
@@ -98,6 +106,8 @@ public final class ModelTest {
     private void putRow(int sort) {
         List<Integer> all = new ArrayList<>();
         int depth = below(12) == 0 ? 8 : below(4);
+        thick = sort == 1 && below(8) == 0;
+        nameKinds = thick || below(3) == 0 ? 1 : 3;
         for (int want : m.function) {
             anyRow(all, want, depth, sort);
         }
@@ -235,7 +245,8 @@ public final class ModelTest {
         for (int k = 0; k < size; k++) {
             int last = 5 + nodes.get(k).position.size();
             for (int what = 0; what <= last; what++) {
-                Check.due("run " + run + " at its end: node(" + k + ", " + what + ")", m.node(k, what), x.node(k, what));
+                String call = "run " + run + " at its end: node(" + k + ", " + what + ")";
+                Check.due(call, Model.node(nodes, k, what), x.node(k, what));
             }
         }
         for (int i = 0; i < m.rules.size(); i++) {
