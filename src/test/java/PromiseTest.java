@@ -194,6 +194,7 @@ public final class PromiseTest {
         due("one too many, and that wrong", -4, rule(0, 2, 99));
         due("no variable", -2, rule(-2, 2));
         due("no constructor", -3, rule(0, 4));
+        due("the next constructor, not made yet", -2, rule(4, 2));
         due("another type", -2, rule(2, 2));
         due("another type within", -5, rule(0, 3, -1, 1));
         due("the first of two", -3, rule(1, 2, 77));
@@ -215,6 +216,12 @@ public final class PromiseTest {
         due("taken", 0, x.count(4));
         due("count(2)", 24, x.count(2));
         due("outcomes stay", 23, x.count(5));
+        start("6 rule");
+        x.type();
+        x.constructor(0, 1, 0);
+        x.begin(2, 0);
+        due("the first constructor has arguments", 0, rule(0, 0, -1, -1));
+        due("one too few of these", -4, rule(0, -1));
     }
 
     private static void promise7Lead() {
@@ -362,6 +369,18 @@ public final class PromiseTest {
         rule(0, -1);
         rule(-1, 2);
         due("an or of none", false, x.covers());
+        x.begin(1, 1);
+        rule(2);
+        rule(3, -1, -1);
+        due("only constructors of its type", true, x.covers());
+        x.begin(2, 0x11);
+        rule(2, 2);
+        rule(3, -1, -1, 2);
+        due("one of two, twice", false, x.covers());
+        x.begin(2, 0x11);
+        rule(2, -1);
+        rule(-1, 2);
+        due("an or of two that have one of two", false, x.covers());
         x.begin(0, 0);
         rule();
         rule();
@@ -384,7 +403,9 @@ public final class PromiseTest {
             }
         }
         due("no such", false, x.clash(0, 5));
+        due("no such", false, x.clash(5, 0));
         due("no such", false, x.clash(5, 5));
+        due("no such", false, x.clash(0, -1));
         due("no such", false, x.clash(-1, 0));
         due("far off", false, x.clash(Integer.MAX_VALUE, Integer.MIN_VALUE));
         x.type();
