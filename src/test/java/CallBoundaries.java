@@ -731,7 +731,12 @@ final class CallBoundaries {
         s.rule(NEXT, -1);
         s.rule(NEXT, -1);
         s.due("of a BRANCH of all", 3, s.node(0, 2));
-        s.due("of an OR ahead of another node", 2, s.node(2, 2));
+        s.due("of an OR of LEAVES ahead of another node", 2, s.node(2, 2));
+        s.begin(2, 0);
+        s.rule(ZERO, ZERO);
+        s.rule(ZERO, -1);
+        s.rule(NEXT, -1, -1);
+        s.due("of an OR of TREES ahead of another node", 2, s.node(1, 2));
     }
 
     private static void nodesConstructor() {
