@@ -3,11 +3,10 @@ public final class AnyCallsTest {
     private static final int OBJECTS = 300;
     private static final int CALLS = 6000;
 
-    private static long seed = 4711;
+    private static final Dice DICE = new Dice(4711);
 
     private static int below(int n) {
-        seed = seed * 6364136223846793005L + 1442695040888963407L;
-        return (int) ((seed >>> 33) % n);
+        return DICE.below(n);
     }
 
     private static int any() {

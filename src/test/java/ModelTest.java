@@ -6,7 +6,7 @@ public final class ModelTest {
     private static final int RUNS = 4000;
     private static final int CALLS = 512;
 
-    private long seed;
+    private final Dice dice;
     private int run;
     private int calls;
     private int nameKinds = 3;
@@ -18,14 +18,13 @@ public final class ModelTest {
 
     private ModelTest(int run) {
         this.run = run;
-        this.seed = run * 0x9E3779B97F4A7C15L + 12345;
+        this.dice = new Dice(run * 0x9E3779B97F4A7C15L + 12345);
         this.x = new NeededTrees();
         this.m = new Model();
     }
 
     private int below(int n) {
-        seed = seed * 6364136223846793005L + 1442695040888963407L;
-        return (int) ((seed >>> 33) % n);
+        return dice.below(n);
     }
 
     private int wild() {
